@@ -504,7 +504,8 @@ public final class TwoViews {
         }
         if (stage < PIECED && goal >= PIECED) {
             maps.makeKinds();
-            parts.makePieces();
+            parts.makePieces(LEFT);
+            parts.makePieces(RIGHT);
         }
         if (stage < COMPLETE && goal >= COMPLETE) {
             maps.makeFilled();
@@ -764,9 +765,9 @@ public final class TwoViews {
         }
 
         private void takePenalties() {
-            takeDial(PENALTY_A);
-            int lowest = told.dials[PENALTY_A];
-            told.dials[PENALTY_B] = takeNumber(lowest, DIAL_HIGHEST[PENALTY_B]);
+            int a = takeNumber(DIAL_LOWEST[PENALTY_A], DIAL_HIGHEST[PENALTY_A]);
+            told.dials[PENALTY_A] = a;
+            told.dials[PENALTY_B] = takeNumber(a, DIAL_HIGHEST[PENALTY_B]);
         }
 
         private void takeRow(int view) {
@@ -867,7 +868,7 @@ public final class TwoViews {
         }
 
         private static boolean isWordSign(int sign) {
-            return isDigit(sign) || (sign >= 'a' && sign <= 'z');
+            return (sign >= '0' && sign <= '9') || (sign >= 'a' && sign <= 'z');
         }
 
         private static int valueOf(int sign) {
@@ -1331,18 +1332,11 @@ public final class TwoViews {
             waiting = new int[PICTURE];
         }
 
-        void makePieces() {
-            for (int i = 0; i < 2 * PICTURE; i++) {
-                pieceOf[i] = NONE;
-            }
-            findPieces(LEFT);
-            findPieces(RIGHT);
-            dropSmall(LEFT);
-            dropSmall(RIGHT);
-        }
-
-        private void findPieces(int view) {
+        void makePieces(int view) {
             made[view] = 0;
+            for (int i = 0; i < PICTURE; i++) {
+                pieceOf[view * PICTURE + i] = NONE;
+            }
             for (int y = 0; y < scene.h; y++) {
                 for (int x = 0; x < scene.w; x++) {
                     int spot = spotOf(view, x, y);
@@ -1351,6 +1345,7 @@ public final class TwoViews {
                     }
                 }
             }
+            dropSmall(view);
         }
 
         private void grow(int view, int x, int y) {
