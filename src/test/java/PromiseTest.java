@@ -627,6 +627,13 @@ public final class PromiseTest {
             }
         }
         due("some are below, by a part", below, true);
+        // one place of RIGHT sees a lesser one: by 0, 1, 2 the sums at 2, 0 are 1, 0, 0
+        TwoViews b = new TwoViews();
+        Words.read(b, "size 5 3;paths 4;right 0 55555;right 1 55505;right 2 55555");
+        due("by 0", b.sum(2, 0, 0), 1);
+        due("by 1", b.sum(2, 0, 1), 0);
+        due("by 2", b.sum(2, 0, 2), 0);
+        due("the least bend", b.fine(2, 0), 16 + 8);
     }
 
     private static void ground() {
