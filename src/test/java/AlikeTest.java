@@ -2,8 +2,9 @@ import java.util.NoSuchElementException;
 
 /** Long runs of all calls, made by a fixed row of numbers: TwoViews answers as Plain does. */
 public final class AlikeTest {
-    private static final int RUNS = 240;
-    private static final int CALLS = 512;
+    private static final int RUNS = 340;
+    /** What one round of all() may ask at most. */
+    private static final int ROUND = 40;
     private static final int THROWN = Integer.MIN_VALUE + 77;
     private static final String[] CALL_NAMES = {
         "feed", "text", "size", "value", "tune", "layer", "clear", "draw", "truth", "at", "code",
@@ -15,8 +16,8 @@ public final class AlikeTest {
     private final Check check;
     private final int run;
     private long state;
-    private TwoViews views = new TwoViews();
-    private Plain plain = new Plain();
+    private final Counted views = new Counted();
+    private final Plain plain = new Plain();
     private final StringBuilder story = new StringBuilder();
 
     private AlikeTest(Check check, int run) {
@@ -265,7 +266,7 @@ public final class AlikeTest {
     }
 
     private void all() {
-        for (int i = 0; i < CALLS && check.wrong() == 0; i++) {
+        while (views.calls() + ROUND <= Counted.CALLS && check.wrong() == 0) {
             int luck = below(100);
             String name = CALL_NAMES[2 + below(CALL_NAMES.length - 2)];
             if (luck < 4) {

@@ -21,15 +21,15 @@ public final class PromiseTest {
     }
 
     /** LEFT 123 / 456 / 789, RIGHT all 0; its codes are told at promise 12. */
-    private static TwoViews nine() {
-        TwoViews v = new TwoViews();
+    private static Counted nine() {
+        Counted v = new Counted();
         due("nine", Words.read(v, "size 3 3;left 0 123;left 1 456;left 2 789"), 3);
         return v;
     }
 
     /** One layer over all of both pictures, by a shift of 2. */
-    private static TwoViews wall() {
-        TwoViews v = new TwoViews();
+    private static Counted wall() {
+        Counted v = new Counted();
         v.size(16, 12);
         due("wall", v.layer(-10, -10, 40, 40, 2, 5), 0);
         due("wall drawn", v.draw(), 192);
@@ -37,8 +37,8 @@ public final class PromiseTest {
     }
 
     /** A wall by 0 and a plate by 3 before it. */
-    private static TwoViews plate() {
-        TwoViews v = new TwoViews();
+    private static Counted plate() {
+        Counted v = new Counted();
         v.size(16, 12);
         v.layer(-10, -10, 40, 40, 0, 5);
         v.layer(7, 3, 6, 6, 3, 9);
@@ -46,12 +46,14 @@ public final class PromiseTest {
         return v;
     }
 
-    private static int[] picture(TwoViews v) {
-        int[] all = new int[2 * v.count(0) * v.count(1)];
+    private static int[] picture(Counted v) {
+        int w = v.count(0);
+        int h = v.count(1);
+        int[] all = new int[2 * w * h];
         int n = 0;
         for (int view = 0; view < 2; view++) {
-            for (int y = 0; y < v.count(1); y++) {
-                for (int x = 0; x < v.count(0); x++) {
+            for (int y = 0; y < h; y++) {
+                for (int x = 0; x < w; x++) {
                     all[n++] = v.at(view, x, y);
                 }
             }
@@ -90,7 +92,7 @@ public final class PromiseTest {
     }
 
     private static void newObject() {
-        TwoViews v = new TwoViews();
+        Counted v = new Counted();
         int[] want = {8, 6, 3, 1, 2, 6, 255, 1, 1, 100, 0, 0, 0};
         for (int i = 0; i < want.length; i++) {
             due("new count " + i, v.count(i), want[i]);
@@ -103,7 +105,7 @@ public final class PromiseTest {
     }
 
     private static void feed() {
-        TwoViews v = new TwoViews();
+        Counted v = new Counted();
         for (int i = 1; i <= 35; i++) {
             due("feed " + i, v.feed(0, 0, 0, 0, 0), 20 * i);
         }
@@ -124,7 +126,7 @@ public final class PromiseTest {
     }
 
     private static void text() {
-        TwoViews v = new TwoViews();
+        Counted v = new Counted();
         v.tune(0, 7);
         v.tune(5, 3);
         v.tune(6, 9);
@@ -157,7 +159,7 @@ public final class PromiseTest {
         textRefused(v);
     }
 
-    private static void textRefused(TwoViews v) {
+    private static void textRefused(Counted v) {
         int acts = v.count(11);
         Words.put(v, "size 4 4");
         due("too many", v.text(21), NONE);
@@ -199,7 +201,7 @@ public final class PromiseTest {
             {"size 4 3;right 2 size;most 9", 17, 3}, {"size 4 3;left 0 0000 right", 21, 1},
         };
         for (Object[] r : rows) {
-            TwoViews v = new TwoViews();
+            Counted v = new Counted();
             int want = Words.fault((Integer) r[1], (Integer) r[2]);
             due("text \"" + r[0] + "\"", Words.read(v, (String) r[0]), want);
             due("stays 8", v.count(0), 8);
@@ -209,7 +211,7 @@ public final class PromiseTest {
     }
 
     private static void size() {
-        TwoViews v = new TwoViews();
+        Counted v = new Counted();
         v.tune(0, 5);
         v.value(1, 2, 2, 7);
         int[][] bad = {{2, 3}, {3, 2}, {17, 3}, {3, 13}, {-8, 6}, {8, FAR_OUT}, {FAR_BELOW, 6}};
@@ -230,7 +232,7 @@ public final class PromiseTest {
     }
 
     private static void value() {
-        TwoViews v = new TwoViews();
+        Counted v = new Counted();
         due("value", v.value(0, 7, 5, 15), 0);
         due("value again", v.value(0, 7, 5, 15), 15);
         due("acts", v.count(11), 2);
@@ -249,7 +251,7 @@ public final class PromiseTest {
         int[] low = {1, 1, 0, 2, 1, 0, 1, 1};
         int[] high = {7, 2, 6, 60, 255, 3, 50, 999};
         for (int i = 0; i < 8; i++) {
-            TwoViews v = new TwoViews();
+            Counted v = new Counted();
             due("tune below " + i, v.tune(i, low[i] - 1), NONE);
             due("tune above " + i, v.tune(i, high[i] + 1), NONE);
             due("tune far " + i, v.tune(i, FAR_OUT), NONE);
@@ -262,7 +264,7 @@ public final class PromiseTest {
             due("tune like " + i, v.tune(i, high[i]), high[i]);
             due("acts " + i, v.count(11), 3);
         }
-        TwoViews v = new TwoViews();
+        Counted v = new Counted();
         due("what below", v.tune(-1, 1), NONE);
         due("what above", v.tune(8, 1), NONE);
         due("what far", v.tune(FAR_BELOW, 1), NONE);
@@ -280,7 +282,7 @@ public final class PromiseTest {
             {0, 0, 0, 1, 0}, {0, 0, 41, 1, 0}, {0, 0, 1, 0, 0}, {0, 0, 1, 41, 0},
             {0, 0, 1, 1, -1}, {0, 0, 1, 1, 4}, {FAR_OUT, 0, 1, 1, 0}, {0, FAR_BELOW, 1, 1, 0}
         };
-        TwoViews v = new TwoViews();
+        Counted v = new Counted();
         for (int[] b : bad) {
             due("layer " + Arrays.toString(b), v.layer(b[0], b[1], b[2], b[3], b[4], 1), NONE);
         }
@@ -306,7 +308,7 @@ public final class PromiseTest {
     }
 
     private static void draw() {
-        TwoViews v = new TwoViews();
+        Counted v = new Counted();
         v.layer(1, 1, 3, 2, 1, 1);
         v.layer(2, 2, 20, 20, 3, -7);
         // 3 * 2 and 6 * 4, of which 2 are in both
@@ -335,7 +337,7 @@ public final class PromiseTest {
     }
 
     private static void truth() {
-        TwoViews v = new TwoViews();
+        Counted v = new Counted();
         v.layer(0, 1, 8, 4, 1, 1);
         v.layer(4, 2, 2, 2, 3, 2);
         due("without", v.truth(0, 0, 0), NONE);
@@ -361,7 +363,7 @@ public final class PromiseTest {
     }
 
     private static void at() {
-        TwoViews v = new TwoViews();
+        Counted v = new Counted();
         v.value(1, 7, 5, 4);
         due("at", v.at(1, 7, 5), 4);
         due("at the other view", v.at(0, 7, 5), 0);
@@ -369,7 +371,7 @@ public final class PromiseTest {
     }
 
     private static void codes() {
-        TwoViews v = nine();
+        Counted v = nine();
         int[] want = {0, 144, 144, 224, 240, 240, 224, 244, 244};
         int[] same = {10, 2, 2, 2, 2, 2, 2, 2, 2};
         for (int i = 0; i < 9; i++) {
@@ -387,14 +389,14 @@ public final class PromiseTest {
         due("window 2, last", v.code(0, 2, 2), 0b11111_11111_1100_11000_11000);
         due("codes -1", v.codes(-1), NONE);
         due("codes 2", v.codes(2), NONE);
-        TwoViews w = new TwoViews();
+        Counted w = new Counted();
         refusesPlaces("code", true, true, w::code);
         refusesPlaces("same", true, true, w::same);
         due("same of all", w.same(0, 3, 3), 96);
     }
 
     private static void cost() {
-        TwoViews v = nine();
+        Counted v = nine();
         int[] ones = {0, 2, 2, 3, 4, 4, 3, 5, 5};
         for (int i = 0; i < 9; i++) {
             for (int d = 0; d <= 3; d++) {
@@ -409,12 +411,12 @@ public final class PromiseTest {
         due("shift 8", v.cost(2, 2, 8), NONE);
         due("shift -1", v.cost(2, 2, -1), NONE);
         due("shift far", v.cost(2, 2, FAR_OUT), NONE);
-        TwoViews w = new TwoViews();
+        Counted w = new Counted();
         refusesPlaces("cost", false, false, (view, x, y) -> w.cost(x, y, 0));
     }
 
     private static void path() {
-        TwoViews v = nine();
+        Counted v = nine();
         v.tune(0, 2);
         // row 1 costs 3 8 8, 4 4 8, 4 4 4
         int[][] right = {{3, 8, 8}, {4, 6, 13}, {4, 6, 8}};
@@ -444,14 +446,14 @@ public final class PromiseTest {
         due("way 8", v.path(8, 0, 0, 0), NONE);
         due("shift 3", v.path(0, 0, 0, 3), NONE);
         due("shift -1", v.path(0, 0, 0, -1), NONE);
-        TwoViews w = new TwoViews();
+        Counted w = new Counted();
         refusesPlaces("path", false, false, (view, x, y) -> w.path(0, x, y, 0));
     }
 
     private static void sum() {
-        TwoViews v = nine();
+        Counted v = nine();
         v.tune(0, 2);
-        for (int paths = 1; paths < 256; paths += 7) {
+        for (int paths = 1; paths < 256; paths += 17) {
             v.tune(4, paths);
             for (int d = 0; d < 3; d++) {
                 int want = 0;
@@ -465,12 +467,12 @@ public final class PromiseTest {
         due("two ways", v.sum(1, 1, 2), 13 + 8);
         due("shift 3", v.sum(1, 1, 3), NONE);
         due("shift -1", v.sum(1, 1, -1), NONE);
-        TwoViews w = new TwoViews();
+        Counted w = new Counted();
         refusesPlaces("sum", false, false, (view, x, y) -> w.sum(x, y, 0));
     }
 
     private static void shift() {
-        TwoViews v = nine();
+        Counted v = nine();
         v.tune(0, 2);
         v.tune(4, 1);
         // row 1 sums up to 3 8 8, 4 6 13, 4 6 8
@@ -481,40 +483,40 @@ public final class PromiseTest {
         due("left 2", v.shift(0, 2, 1), 0);
         due("right 1: 4, 4", v.shift(1, 1, 1), 0);
         due("right 0: 3, 4, 4", v.shift(1, 0, 1), 0);
-        TwoViews w = wall();
+        Counted w = wall();
         due("wall left", w.shift(0, 8, 6), 2);
         due("wall right", w.shift(1, 8, 6), 2);
         due("beyond the edge x + d is not there", w.shift(1, 15, 6), 0);
-        TwoViews p = plate();
+        Counted p = plate();
         due("plate left", p.shift(0, 9, 6), 3);
         due("plate right", p.shift(1, 6, 6), 3);
         due("wall beside", p.shift(0, 14, 1), 0);
-        TwoViews n = new TwoViews();
+        Counted n = new Counted();
         refusesPlaces("shift", true, true, n::shift);
     }
 
     private static void margin() {
-        TwoViews v = nine();
+        Counted v = nine();
         v.tune(4, 1);
         v.tune(0, 2);
         due("margin", v.margin(1, 1), 9);
         due("margin of the last", v.margin(2, 1), 4);
         v.tune(0, 1);
         due("none such", v.margin(1, 1), NONE);
-        TwoViews w = new TwoViews();
+        Counted w = new Counted();
         // by 2 and 3 over eight ways what lies beyond the edge costs
         due("zero picture", w.margin(7, 3), Math.min(w.sum(7, 3, 2), w.sum(7, 3, 3)));
         refusesPlaces("margin", false, true, (view, x, y) -> w.margin(x, y));
-        TwoViews m = wall();
+        Counted m = wall();
         m.tune(0, 3);
         due("SHIFT 2 of 3", m.margin(8, 6), m.sum(8, 6, 0) - m.sum(8, 6, 2));
     }
 
     private static void kinds() {
-        TwoViews v = wall();
+        Counted v = wall();
         due("sure left", v.kind(0, 8, 6), 0);
         due("sure right", v.kind(1, 8, 6), 0);
-        TwoViews p = plate();
+        Counted p = plate();
         int[] found = new int[3];
         for (int x = 0; x < 16; x++) {
             for (int y = 0; y < 12; y++) {
@@ -529,7 +531,7 @@ public final class PromiseTest {
         due("kinds 3", p.kinds(1, 3), NONE);
         due("kinds of view 2", p.kinds(2, 0), NONE);
         due("kinds of view -1", p.kinds(-1, 0), NONE);
-        TwoViews n = nine();
+        Counted n = nine();
         due("all sure", n.kinds(1, 0), 9);
         n.tune(6, 9);
         due("nine are not fewer than nine", n.kinds(1, 0), 9);
@@ -537,12 +539,12 @@ public final class PromiseTest {
         due("gone", n.kinds(1, 0), 0);
         due("unlike then", n.kinds(1, 1), 9);
         due("kind gone", n.kind(0, 1, 1), 1);
-        TwoViews w = new TwoViews();
+        Counted w = new Counted();
         refusesPlaces("kind", true, false, w::kind);
     }
 
     private static void pieces() {
-        TwoViews n = nine();
+        Counted n = nine();
         due("piece", n.piece(0, 2, 2), 9);
         due("pieces", n.pieces(0, 0), 1);
         due("greatest", n.pieces(0, 1), 9);
@@ -564,14 +566,14 @@ public final class PromiseTest {
         due("pieces 2", n.pieces(0, 2), NONE);
         due("pieces -1", n.pieces(0, -1), NONE);
         due("pieces of view 2", n.pieces(2, 0), NONE);
-        TwoViews w = new TwoViews();
+        Counted w = new Counted();
         refusesPlaces("piece", true, false, w::piece);
         piecesOfPlate();
     }
 
     private static void piecesOfPlate() {
-        TwoViews p = plate();
         for (int view = 0; view < 2; view++) {
+            Counted p = plate();
             int together = 0;
             int shifts = 0;
             for (int i = 0; i < p.pieces(view, 0); i++) {
@@ -589,24 +591,41 @@ public final class PromiseTest {
                 }
             }
             due("all sure ones", together, p.kinds(view, 0));
-            due("their shifts", shifts, shiftsOfSure(p, view));
+            due("their shifts", shifts, shiftsOfSure(plate(), view));
         }
+        Counted p = plate();
         due("a hidden one is of no piece", p.piece(0, 5, 6), 0);
         due("the plate", p.pieceAt(0, 1, 0), p.piece(0, 9, 6));
     }
 
-    private static int shiftsOfSure(TwoViews v, int view) {
+    private static int shiftsOfSure(Counted v, int view) {
         int together = 0;
-        for (int y = 0; y < v.count(1); y++) {
-            for (int x = 0; x < v.count(0); x++) {
+        for (int y = 0; y < 12; y++) {
+            for (int x = 0; x < 16; x++) {
                 together += v.kind(view, x, y) == 0 ? v.shift(view, x, y) : 0;
             }
         }
         return together;
     }
 
+    private static boolean isSomeFineBelow() {
+        Counted v = wall();
+        v.tune(0, 4);
+        for (int x = 4; x < 12; x++) {
+            for (int y = 0; y < 12; y++) {
+                int l = v.sum(x, y, 1);
+                int c = v.sum(x, y, 2);
+                int r = v.sum(x, y, 3);
+                if (v.shift(0, x, y) == 2 && l < r && 8 * (r - l) % (l + r - 2 * c) != 0) {
+                    return true;
+                }
+            }
+        }
+        return false;
+    }
+
     private static void fine() {
-        TwoViews v = wall();
+        Counted v = wall();
         v.tune(0, 4);
         int l = v.sum(8, 6, 1);
         int c = v.sum(8, 6, 2);
@@ -614,21 +633,12 @@ public final class PromiseTest {
         due("fine", v.fine(8, 6), 32 + Math.floorDiv(8 * (l - r), l + r - 2 * c));
         v.tune(0, 2);
         due("one more is not there", v.fine(8, 6), 32);
-        TwoViews n = new TwoViews();
+        Counted n = new Counted();
         due("one less is not there", n.fine(4, 4), 0);
         refusesPlaces("fine", false, true, (view, x, y) -> n.fine(x, y));
-        boolean below = false;
-        for (int x = 4; x < 16; x++) {
-            for (int y = 0; y < 12; y++) {
-                v.tune(0, 4);
-                below |= v.shift(0, x, y) == 2 && v.sum(x, y, 1) < v.sum(x, y, 3)
-                    && 8 * (v.sum(x, y, 3) - v.sum(x, y, 1))
-                        % (v.sum(x, y, 1) + v.sum(x, y, 3) - 2 * v.sum(x, y, 2)) != 0;
-            }
-        }
-        due("some are below, by a part", below, true);
+        due("some are below, by a part", isSomeFineBelow(), true);
         // one place of RIGHT sees a lesser one: by 0, 1, 2 the sums at 2, 0 are 1, 0, 0
-        TwoViews b = new TwoViews();
+        Counted b = new Counted();
         Words.read(b, "size 5 3;paths 4;right 0 55555;right 1 55505;right 2 55555");
         due("by 0", b.sum(2, 0, 0), 1);
         due("by 1", b.sum(2, 0, 1), 0);
@@ -637,7 +647,7 @@ public final class PromiseTest {
     }
 
     private static void ground() {
-        TwoViews n = nine();
+        Counted n = nine();
         due("p", n.ground(0), 0);
         due("q", n.ground(1), 0);
         due("votes", n.ground(2), 9);
@@ -658,7 +668,7 @@ public final class PromiseTest {
         due("no place is sure", n.ground(0), NONE);
         due("no place is sure", n.ground(2), NONE);
         due("no votes", n.votes(0, 0), 0);
-        TwoViews w = wall();
+        Counted w = wall();
         due("wall p", w.ground(0), 12);
         due("wall q", w.ground(1), 0);
         due("wall votes", w.ground(2), w.votes(19, 0));
@@ -666,7 +676,7 @@ public final class PromiseTest {
     }
 
     private static void between() {
-        TwoViews v = wall();
+        Counted v = wall();
         due("holes 0", v.holes(0), 0);
         due("holes 4", v.holes(4), 0);
         due("holes -1", v.holes(-1), NONE);
@@ -680,21 +690,22 @@ public final class PromiseTest {
         }
         due("t -1", v.between(-1, 0, 0), NONE);
         due("t 5", v.between(5, 0, 0), NONE);
-        TwoViews n = new TwoViews();
+        Counted n = new Counted();
         refusesPlaces("between", false, false, (view, x, y) -> n.between(0, x, y));
-        TwoViews p = plate();
         for (int t = 0; t <= 4; t++) {
+            Counted p = plate();
             int found = 0;
             for (int i = 0; i < 192; i++) {
                 found += p.between(t, i % 16, i / 16) == -2 ? 1 : 0;
             }
             due("holes " + t, p.holes(t), found);
         }
+        Counted p = plate();
         due("the plate before the wall", p.between(4, 6, 6), p.at(0, 9, 6));
     }
 
     private static void filledAndDepth() {
-        TwoViews p = plate();
+        Counted p = plate();
         due("sure", p.filled(0, 9, 6), 3);
         due("hidden: the lesser one", p.filled(0, 5, 6), 0);
         due("depth", p.depth(9, 6), 33);
@@ -707,33 +718,33 @@ public final class PromiseTest {
         due("the plate is gone", p.kind(0, 9, 6), 1);
         due("the middle of the wall around", p.filled(0, 9, 6), 0);
         due("far then", p.depth(9, 6), -2);
-        TwoViews n = nine();
+        Counted n = nine();
         n.tune(6, 10);
         due("without any", n.filled(0, 1, 1), 0);
-        TwoViews w = new TwoViews();
+        Counted w = new Counted();
         refusesPlaces("filled", true, true, w::filled);
         refusesPlaces("depth", false, true, (view, x, y) -> w.depth(x, y));
     }
 
     /** All ways to choose, one by one: cost first, then the shifts from the right end on. */
-    private static List<Integer> bestWay(TwoViews v, int y, List<Integer> behind) {
-        int x = v.count(0) - 1 - behind.size();
-        if (x < 0) {
+    private static List<Integer> bestWay(int[][] costs, int a, int b, List<Integer> behind) {
+        int last = costs.length - 1;
+        if (behind.size() > last) {
             int price = 0;
             for (int i = 0; i < behind.size(); i++) {
-                price += v.cost(v.count(0) - 1 - i, y, behind.get(i));
+                price += costs[last - i][behind.get(i)];
                 int apart = i == 0 ? 0 : Math.abs(behind.get(i) - behind.get(i - 1));
-                price += apart == 0 ? 0 : apart == 1 ? v.count(4) : v.count(5);
+                price += apart == 0 ? 0 : apart == 1 ? a : b;
             }
             List<Integer> all = new ArrayList<>(behind);
             all.add(0, price);
             return all;
         }
         List<Integer> best = null;
-        for (int d = 0; d <= v.count(2); d++) {
+        for (int d = 0; d < costs[0].length; d++) {
             List<Integer> more = new ArrayList<>(behind);
             more.add(d);
-            List<Integer> got = bestWay(v, y, more);
+            List<Integer> got = bestWay(costs, a, b, more);
             // earlier ones are less from the right end on, so that like ones do not count
             best = best == null || got.get(0) < best.get(0) ? got : best;
         }
@@ -742,7 +753,7 @@ public final class PromiseTest {
 
     private static void row() {
         for (int seed = 0; seed < 40; seed++) {
-            TwoViews v = new TwoViews();
+            Counted v = new Counted();
             v.size(5, 3);
             v.layer(-3, 0, 20, 3, seed % 4, seed);
             v.layer(2, 1, 3, 2, 1 + seed % 3, seed * 7);
@@ -751,7 +762,11 @@ public final class PromiseTest {
             v.tune(3, 2 + seed % 5);
             int together = 0;
             for (int y = 0; y < 3; y++) {
-                List<Integer> best = bestWay(v, y, List.of());
+                int[][] costs = new int[5][4];
+                for (int i = 0; i < 20; i++) {
+                    costs[i / 4][i % 4] = v.cost(i / 4, y, i % 4);
+                }
+                List<Integer> best = bestWay(costs, v.count(4), v.count(5), List.of());
                 due("row costs, seed " + seed, v.row(y, -1), best.get(0));
                 for (int x = 0; x < 5; x++) {
                     due("row " + y + " " + x + ", seed " + seed, v.row(y, x), best.get(5 - x));
@@ -760,7 +775,7 @@ public final class PromiseTest {
             }
             due("rows together", v.energy(2), together);
         }
-        TwoViews v = new TwoViews();
+        Counted v = new Counted();
         due("y 6", v.row(6, 0), NONE);
         due("y -1", v.row(-1, 0), NONE);
         due("x 8", v.row(0, 8), NONE);
@@ -770,39 +785,44 @@ public final class PromiseTest {
         due("x 7", v.row(5, 7), 0);
     }
 
+    private static int priceOf(int[][] map) {
+        int price = 0;
+        for (int y = 0; y < 12; y++) {
+            for (int x = 0; x < 16; x++) {
+                int beside = x < 15 ? Math.abs(map[y][x] - map[y][x + 1]) : 0;
+                int below = y < 11 ? Math.abs(map[y][x] - map[y + 1][x]) : 0;
+                price += (beside == 0 ? 0 : beside == 1 ? 2 : 6) + (below == 0 ? 0 : below == 1 ? 2 : 6);
+            }
+        }
+        return price;
+    }
+
     private static void energy() {
-        TwoViews p = plate();
         for (int what = 0; what < 2; what++) {
-            int want = 0;
+            Counted p = plate();
+            int[][] map = new int[12][16];
+            int costs = 0;
             for (int y = 0; y < 12; y++) {
                 for (int x = 0; x < 16; x++) {
-                    int own = what == 0 ? p.filled(0, x, y) : p.shift(0, x, y);
-                    want += p.cost(x, y, own);
-                    for (int side = 0; side < 2; side++) {
-                        int i = x + side;
-                        int j = y + 1 - side;
-                        if (i < 16 && j < 12) {
-                            int other = what == 0 ? p.filled(0, i, j) : p.shift(0, i, j);
-                            int apart = Math.abs(own - other);
-                            want += apart == 0 ? 0 : apart == 1 ? 2 : 6;
-                        }
-                    }
+                    map[y][x] = what == 0 ? p.filled(0, x, y) : p.shift(0, x, y);
+                    costs += p.cost(x, y, map[y][x]);
                 }
             }
-            due("energy " + what, p.energy(what), want);
+            due("energy " + what, p.energy(what), costs + priceOf(map));
         }
+        Counted p = plate();
         due("energy 3", p.energy(3), NONE);
         due("energy -1", p.energy(-1), NONE);
-        due("of zeros", new TwoViews().energy(0), 0);
+        due("of zeros", new Counted().energy(0), 0);
         // 0, 2, 2, 3, 4, 4, 3, 5, 5 by 0 each
-        TwoViews n = nine();
+        Counted n = nine();
         due("nine filled", n.energy(0), 28);
         due("nine shifts", n.energy(1), 28);
         due("nine rows", n.energy(2), 28);
     }
 
     private static void wrong() {
-        TwoViews v = new TwoViews();
+        Counted v = new Counted();
         v.layer(0, 0, 5, 6, 0, 1);
         v.layer(6, 2, 2, 2, 3, 1);
         // nothing is drawn: all is filled by 0, and the plate by 3 is wrong; none of it is covered
@@ -821,7 +841,7 @@ public final class PromiseTest {
         due("what -1", v.wrong(0, -1), NONE);
         v.clear();
         due("without layers", v.wrong(0, 0), 0);
-        TwoViews p = plate();
+        Counted p = plate();
         due("all are some", p.wrong(0, 0), p.wrong(0, 1) + p.wrong(0, 2));
         int want = 0;
         for (int i = 0; i < 192; i++) {
@@ -833,7 +853,7 @@ public final class PromiseTest {
     }
 
     private static void undo() {
-        TwoViews v = new TwoViews();
+        Counted v = new Counted();
         v.layer(0, 0, 8, 6, 1, 3);
         v.tune(7, 55);
         v.draw();
@@ -865,7 +885,7 @@ public final class PromiseTest {
     }
 
     private static void undoEight() {
-        TwoViews v = new TwoViews();
+        Counted v = new Counted();
         for (int i = 1; i <= 12; i++) {
             v.value(0, 0, 0, i);
             due("acts " + i, v.count(11), Math.min(i, 8));
@@ -888,7 +908,7 @@ public final class PromiseTest {
     }
 
     private static void images() {
-        TwoViews v = new TwoViews();
+        Counted v = new Counted();
         due("image 2", v.image(2), false);
         due("image -1", v.image(-1), false);
         due("back 2", v.back(2), false);
@@ -934,7 +954,7 @@ public final class PromiseTest {
     }
 
     private static void count() {
-        TwoViews v = new TwoViews();
+        Counted v = new Counted();
         due("count -1", v.count(-1), NONE);
         due("count 13", v.count(13), NONE);
         due("count far", v.count(FAR_OUT), NONE);

@@ -13,7 +13,7 @@ final class Words {
         return numbers;
     }
 
-    static int put(TwoViews views, String bytes) {
+    static int put(Counted views, String bytes) {
         int[] n = pack(bytes);
         int length = views.count(12);
         for (int i = 0; i < n.length; i += 5) {
@@ -22,7 +22,7 @@ final class Words {
         return length;
     }
 
-    static int read(TwoViews views, String bytes) {
+    static int read(Counted views, String bytes) {
         put(views, bytes);
         return views.text(bytes.length());
     }
