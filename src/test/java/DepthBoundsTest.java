@@ -114,6 +114,16 @@ public final class DepthBoundsTest {
         kinds("row by row", w, "000/200/201", "000/100/022");
     }
 
+    /** LEFT 2 of row 1 is pointed at by RIGHT 0 alone, by 2; RIGHT 1 of row 2 by LEFT 3, by 2. */
+    private static void pointedAtByMost() {
+        Counted v = plain(";most 2;slack 0", "0001/1111/0111", "0100/1001/1000");
+        shifts(v, "0100/0001/0000", "0200/2210/0100");
+        due("LEFT", Rows.kinds(v, 0), "0200/2210/0200");
+        Counted w = plain(";most 2;slack 0", "0011/1011/1010", "0001/1000/1111");
+        shifts(w, "0001/0000/0102", "0010/0010/1010");
+        due("RIGHT", Rows.kinds(w, 1), "0002/0010/0112");
+    }
+
     private static void goneAreUnlike() {
         Counted v = plain(";most 3;slack 0", "100/010/111", "011/101/111");
         due("PIECES", Rows.pieces(v, 0), "010/103/033");
@@ -170,6 +180,20 @@ public final class DepthBoundsTest {
         kinds("row by row", w, "010/200/200", "020/002/020");
         due("LEFT", Rows.pieces(w, 0), "101/031/033");
         due("RIGHT", Rows.pieces(w, 1), "101/210/201");
+    }
+
+    /** From the first PLACE on, 2, 0 is come to by going up alone, 0, 2 by going to the left alone. */
+    private static void roundCorners() {
+        Counted up = plain(";most 1;slack 0", "110/111/000", "111/110/110");
+        due("SHIFTS", Rows.shifts(up, 0), "011/000/010");
+        due("KINDS", Rows.kinds(up, 0), "020/000/010");
+        due("one PIECE", Rows.pieces(up, 0), "707/777/707");
+        due("pieces", up.pieces(0, 0), 1);
+        Counted back = plain(";most 3;slack 0", "000/110/000", "010/010/100");
+        due("SHIFTS", Rows.shifts(back, 0), "010/000/000");
+        due("KINDS", Rows.kinds(back, 0), "010/200/000");
+        due("two PIECES", Rows.pieces(back, 0), "106/066/666");
+        due("pieces", back.pieces(0, 0), 2);
     }
 
     private static void goneOrNot() {
@@ -303,6 +327,8 @@ public final class DepthBoundsTest {
         fineOf(plain(";most 2", "000/101/100", "001/110/111"), 2, 0, 4, 0, 0, 8);
         // 8 * (2 - 17) / 17 is -7.05: as little as can be
         fineOf(Rows.tell(";most 4;penalty 1 9;paths 1", "366/312/433", "412/123/443"), 2, 2, 2, 1, 17, -8);
+        // l + r - 2 c is 1, as little as can be above 0: a like SUM by one less would be the SHIFT's
+        fineOf(Rows.tell(";paths 4", "00000/00000/00000", "55555/55505/55555"), 2, 0, 1, 0, 0, 8);
         // 8 * (1 - 8) / 9 is -6.2
         fineOf(plain(";most 4", "101/101/011", "111/110/000"), 1, 0, 1, 0, 8, -7);
     }
@@ -636,9 +662,11 @@ public final class DepthBoundsTest {
         CHECK.sentence(20, "SURE, if that is there", DepthBoundsTest::seenOutsideOfThePicture);
         CHECK.sentence(20, "SURE, at x - SHIFT 0", DepthBoundsTest::seenAtTheFirstPlace);
         CHECK.sentence(20, "UNLIKE, if some d there is; else HIDDEN", DepthBoundsTest::pointedAt);
+        CHECK.sentence(20, "UNLIKE, if some d there is: MOST", DepthBoundsTest::pointedAtByMost);
         CHECK.sentence(20, "UNLIKE, if its PIECE is GONE", DepthBoundsTest::goneAreUnlike);
         CHECK.sentence(21, "KINDS 0 to 2; NONE: others", DepthBoundsTest::howManyOfAKind);
         CHECK.sentence(22, "by sides over which SHIFTS are 1 or less apart", DepthBoundsTest::hangTogether);
+        CHECK.sentence(22, "hang together by sides, whichever way round", DepthBoundsTest::roundCorners);
         CHECK.sentence(22, "GONE or not (0: it is none of any)", DepthBoundsTest::goneOrNot);
         CHECK.sentence(23, "fewer PLACES than LEAST (1 to 50)", DepthBoundsTest::fewerThanLeast);
         CHECK.sentence(23, "what 0, 1; NONE: others", DepthBoundsTest::piecesArguments);

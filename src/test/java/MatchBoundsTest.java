@@ -357,6 +357,14 @@ public final class MatchBoundsTest {
         due("MOST 2", Rows.of(two, (x, y) -> two.margin(x, y)), "551/7--/7-0");
     }
 
+    private static Counted plainSums(String left, String right, int x, int y, int... sums) {
+        Counted v = Rows.tell(";most 3" + Rows.PLAIN, left, right);
+        for (int d = 0; d < 4; d++) {
+            due("sum at " + x + ", " + y + " by " + d, v.sum(x, y, d), sums[d]);
+        }
+        return v;
+    }
+
     private static void marginFromTwoOn() {
         Counted v = Rows.tell(";most 3" + Rows.PLAIN, "010/010/000", "110/110/011");
         due("SHIFTS", Rows.shifts(v, 0), "000/000/012");
@@ -375,6 +383,10 @@ public final class MatchBoundsTest {
             due("sum at 3 by " + d, m.sum(3, 0, d), zeros[d]);
         }
         due("SHIFT 1: as little by 3", m.margin(3, 0), 0);
+        Counted own = plainSums("000/111/110", "010/100/011", 2, 1, 5, 5, 4, 8);
+        due("SHIFT 2: 5 less 4", own.margin(2, 1), 1);
+        Counted one = plainSums("010/110/100", "100/010/110", 1, 2, 4, 2, 8, 8);
+        due("SHIFT 1: 8 less 2", one.margin(1, 2), 6);
     }
 
     // 32: row
@@ -439,6 +451,18 @@ public final class MatchBoundsTest {
         due("row 1", v.row(1, -1), 5);
         due("row 2", v.row(2, -1), 7);
         due("all", Rows.of(v, (x, y) -> v.row(y, x)), "000/011/010");
+    }
+
+    /** Row 2 costs 5 8, 7 2, 5 0: by 1 all along it is 10, though the first one lies beyond the edge. */
+    private static void rowBeyondTheEdge() {
+        Counted v = Rows.tell(";most 1;penalty 4 6;paths 2", "001/000/010", "000/000/101");
+        int[][] costs = {{5, 8}, {7, 2}, {5, 0}};
+        for (int x = 0; x < 3; x++) {
+            due("by 0", v.cost(x, 2, 0), costs[x][0]);
+            due("by 1", v.cost(x, 2, 1), costs[x][1]);
+        }
+        due("what it costs", v.row(2, -1), 10);
+        due("all", Rows.of(v, (x, y) -> v.row(y, x)), "000/000/111");
     }
 
     // 33: energy
@@ -508,6 +532,7 @@ public final class MatchBoundsTest {
         CHECK.sentence(32, "of like ones, from the right end on", MatchBoundsTest::likeRows);
         CHECK.sentence(32, "1 apart A, more apart B", MatchBoundsTest::rowSteps);
         CHECK.sentence(32, "a row by itself, steps for nothing", MatchBoundsTest::rowsByThemselves);
+        CHECK.sentence(32, "a SHIFT for each PLACE, the first too", MatchBoundsTest::rowBeyondTheEdge);
         CHECK.sentence(33, "what 0, 1, 2; NONE: others", MatchBoundsTest::energyArguments);
         CHECK.sentence(33, "neighbours by sides A, B", MatchBoundsTest::energyByHand);
         CHECK.sentence(33, "nothing between rows", MatchBoundsTest::energyOfRowsAlone);

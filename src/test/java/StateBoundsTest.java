@@ -289,7 +289,9 @@ public final class StateBoundsTest {
     private static void texturesWrap() {
         // s * 31 is beyond an int from 69273667 and -69273667 on
         int[] seeds = {
-            0, 1, -1, 69273666, 69273667, -69273666, -69273667, FAR_OUT, FAR_BELOW, FAR_BELOW + 1
+            0, 1, -1, 69273666, 69273667, -69273666, -69273667, FAR_OUT, FAR_BELOW, FAR_BELOW + 1,
+            // + 12345 just reaches the bits that count, or just does not; with 12344 and 12346 otherwise
+            -578880227, -1803027171, 1093036322, -131110622
         };
         for (int seed : seeds) {
             Counted v = new Counted();
@@ -675,6 +677,28 @@ public final class StateBoundsTest {
         }
     }
 
+    /** Six others are told behind an IMAGE: with it the first six are back, in all that they are. */
+    private static void imageOfEveryLayer() {
+        Counted v = new Counted();
+        for (int i = 0; i < 6; i++) {
+            v.layer(i, i % 3, 2 + i % 2, 1 + i % 3, i % 4, 40 + i);
+        }
+        v.draw();
+        String left = Rows.values(v, 0);
+        String right = Rows.values(v, 1);
+        v.image(1);
+        v.clear();
+        for (int i = 0; i < 6; i++) {
+            v.layer(5 - i, 2 - i % 3, 1, 6 - i, 3 - i % 4, 90 + i);
+        }
+        v.draw();
+        v.back(1);
+        v.size(8, 6);
+        due("draw", v.draw() > 0, true);
+        due("LEFT", Rows.values(v, 0), left);
+        due("RIGHT", Rows.values(v, 1), right);
+    }
+
     /** An IMAGE keeps what ACTS change, and LAYERS; THE TAPE is not named there. */
     private static void backLeavesTheTape() {
         Counted v = new Counted();
@@ -792,6 +816,7 @@ public final class StateBoundsTest {
         CHECK.sentence(36, "an IMAGE is made: 0 and 1 apart", StateBoundsTest::imagesAreApart);
         CHECK.sentence(36, "an IMAGE is made: it stays as it was made", StateBoundsTest::imageStaysAsMade);
         CHECK.sentence(36, "keeps all that they change, and LAYERS", StateBoundsTest::imageOfEveryDial);
+        CHECK.sentence(36, "and LAYERS: X, Y, W, H, SHIFT, SEED", StateBoundsTest::imageOfEveryLayer);
         CHECK.sentence(37, "false: none was made", StateBoundsTest::oneImageMade);
         CHECK.sentence(37, "all is as in an IMAGE of a new object", StateBoundsTest::imageOfANewOne);
         CHECK.sentence(37, "all that they change, and LAYERS: THE TAPE stays", StateBoundsTest::backLeavesTheTape);

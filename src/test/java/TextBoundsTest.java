@@ -151,6 +151,8 @@ public final class TextBoundsTest {
         due("RIGHT", Rows.values(v, 1), "000/000/aaa");
         due("the latest ACT is the same one", v.undo(), 2);
         due("FOCUS", v.count(9), 100);
+        due("another text may come then", Words.read(v, "size 4 3;slack 3"), 1);
+        counts("told", v, 4, 3, 3, 1, 2, 6, 255, 3, 50, 100, 1, 3, 0);
     }
 
     private static void howManyLines() {
