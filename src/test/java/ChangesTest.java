@@ -41,6 +41,16 @@ public final class ChangesTest {
         return v;
     }
 
+    /** Two PIECES of about half of the picture each. */
+    private static Counted halves() {
+        Counted v = new Counted();
+        v.size(16, 12);
+        v.layer(-20, -20, 40, 26, 0, 5);
+        v.layer(-20, 6, 40, 20, 2, 77);
+        v.draw();
+        return v;
+    }
+
     private static void askOnce(Counted v) {
         for (int way = 0; way < 8; way++) {
             v.path(way, 1, 1, 1);
@@ -171,6 +181,7 @@ public final class ChangesTest {
             v.size(3, 5);
             v.draw();
         });
+        seen(4, "size, where two PIECES were", ChangesTest::halves, v -> v.size(3, 3));
         seen(6, "tune by fewer", ChangesTest::large, v -> {
             v.tune(0, 1);
             v.tune(1, 1);

@@ -468,6 +468,13 @@ public final class DepthBoundsTest {
         betweens(v, "011/100/011", "111/100/111", "11_/101/11_", "11_/001/11_", "101/001/100");
     }
 
+    /** Row 2 by t 1: LEFT 0 goes out, 1 stays behind 2; RIGHT 0 comes to 2: none to the first PLACE. */
+    private static void holeAtTheEdge() {
+        Counted v = plain(";most 3;slack 0", "100/010/110", "100/000/011");
+        filled(v, "000/000/202", "000/000/222");
+        betweens(v, "100/010/110", "100/010/_00", "100/010/_01", "100/010/011", "100/010/011");
+    }
+
     private static void downwardsBetween() {
         int[][] gone = {
             {0, 0, 1, 1, 1}, {0, 1, 1, 2, 2}, {0, 1, 2, 2, 3}, {0, 1, 2, 3, 4}, {0, 1, 3, 4, 5},
@@ -691,6 +698,7 @@ public final class DepthBoundsTest {
         CHECK.sentence(28, "where none comes: of RIGHT likewise", DepthBoundsTest::severalOfRight);
         CHECK.sentence(28, "(t * FILLED + 2) / 4, downwards", DepthBoundsTest::downwardsBetween);
         CHECK.sentence(29, "how many HOLES, none at t 0 and 4", DepthBoundsTest::comesOutsideOfThePicture);
+        CHECK.sentence(29, "how many HOLES, at the first PLACE too", DepthBoundsTest::holeAtTheEdge);
         CHECK.sentence(30, "HIDDEN: the lesser one", DepthBoundsTest::hiddenBetweenTwo);
         CHECK.sentence(30, "HIDDEN: if one is none: of the other one", DepthBoundsTest::hiddenBesideOne);
         CHECK.sentence(30, "HIDDEN: 0 without both", DepthBoundsTest::hiddenWithoutBoth);
