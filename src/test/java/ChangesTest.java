@@ -46,7 +46,8 @@ public final class ChangesTest {
         Counted v = new Counted();
         v.size(16, 12);
         v.layer(-20, -20, 40, 26, 0, 5);
-        v.layer(-20, 6, 40, 20, 2, 77);
+        v.layer(-20, 6, 40, 20, 3, 77);
+        v.tune(2, 6);
         v.draw();
         return v;
     }

@@ -528,6 +528,21 @@ public final class DepthBoundsTest {
         filled(v, "000/110/000", "000/000/000");
     }
 
+    /** In row 1 the only SURE one is at the other end of the widest picture. */
+    private static void hiddenFarAway() {
+        Counted v = plain(";most 7;slack 0", "43e331bc2ac7cee3/9642c2ce9b4a6690/81251dd8a05f706c",
+            "2a01ec8c8b9c2688/4a5510320012377b/be87e314f7955a77");
+        due("KINDS", Rows.kinds(v, 0).substring(17, 33), "2222211222122120");
+        due("SHIFT at 15", v.shift(0, 15, 1), 6);
+        due("FILLED at 0", v.filled(0, 0, 1), 6);
+        Counted w = plain(";most 7;slack 0", "78f91f7d77bcbbcd/3b6be530e0f56ab3/2b6797f7873800ac",
+            "77928948c9aa6b51/32cf01dfeefffc02/6c471fd9aadbe4c5");
+        w.tune(6, 2);
+        due("KINDS", Rows.kinds(w, 1).substring(17, 33), "0121112122122212");
+        due("SHIFT at 0", w.shift(1, 0, 1), 6);
+        due("FILLED at 15", w.filled(1, 15, 1), 6);
+    }
+
     private static void unlikeByFew() {
         Counted none = plain(";most 2;slack 0", "000/011/011", "001/111/100");
         none.tune(6, 4);
@@ -702,6 +717,7 @@ public final class DepthBoundsTest {
         CHECK.sentence(30, "HIDDEN: the lesser one", DepthBoundsTest::hiddenBetweenTwo);
         CHECK.sentence(30, "HIDDEN: if one is none: of the other one", DepthBoundsTest::hiddenBesideOne);
         CHECK.sentence(30, "HIDDEN: 0 without both", DepthBoundsTest::hiddenWithoutBoth);
+        CHECK.sentence(30, "HIDDEN: the nearest, however far", DepthBoundsTest::hiddenFarAway);
         CHECK.sentence(30, "UNLIKE: the middle one of 0 to 4", DepthBoundsTest::unlikeByFew);
         CHECK.sentence(30, "UNLIKE: the middle one of 5 to 8", DepthBoundsTest::unlikeByMany);
         CHECK.sentence(30, "SURE (not GONE)", DepthBoundsTest::goneOnesDoNotFill);

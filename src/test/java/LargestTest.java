@@ -1,4 +1,5 @@
 import java.util.ArrayList;
+import java.util.Arrays;
 import java.util.HashMap;
 import java.util.HashSet;
 import java.util.List;
@@ -263,6 +264,86 @@ public final class LargestTest {
         due("there are some", holesAtAll > 0 ? 1 : 0, 1);
     }
 
+    private static int nearest(int[][] kinds, int[][] shifts, int x, int y, int[] way) {
+        int i = x + way[0];
+        int j = y + way[1];
+        while (i >= 0 && i < W && j >= 0 && j < H) {
+            if (kinds[j][i] == 0) {
+                return shifts[j][i];
+            }
+            i += way[0];
+            j += way[1];
+        }
+        return -1;
+    }
+
+    private static int fillingOf(int[][] kinds, int[][] shifts, int x, int y) {
+        int[][] ways = {{1, 0}, {-1, 0}, {0, 1}, {0, -1}, {1, 1}, {-1, -1}, {1, -1}, {-1, 1}};
+        if (kinds[y][x] == 0) {
+            return shifts[y][x];
+        }
+        List<Integer> near = new ArrayList<>();
+        for (int way = 0; way < (kinds[y][x] == 2 ? 2 : 8); way++) {
+            int shift = nearest(kinds, shifts, x, y, ways[way]);
+            if (shift >= 0) {
+                near.add(shift);
+            }
+        }
+        near.sort(Integer::compare);
+        return near.isEmpty() ? 0 : kinds[y][x] == 2 ? near.get(0) : near.get((near.size() - 1) / 2);
+    }
+
+    private static void filled(Made made) {
+        for (int view = 0; view < 2; view++) {
+            int[][] kinds = kindMap(made, view);
+            int[][] shifts = shiftMap(made, view);
+            Counted v = made.anew();
+            for (int y = 0; y < H; y++) {
+                for (int x = 0; x < W; x++) {
+                    String call = "filled(" + view + ", " + x + ", " + y + ")";
+                    due(call, v.filled(view, x, y), fillingOf(kinds, shifts, x, y));
+                }
+            }
+        }
+    }
+
+    /** Of the ways that end by d the least one: its price, then its SHIFTS from the right end on. */
+    private static int[] longer(List<int[]> ends, int cost, int d) {
+        int[] best = null;
+        for (int[] e : ends) {
+            int apart = Math.abs(e[1] - d);
+            int[] more = new int[e.length + 1];
+            System.arraycopy(e, 1, more, 2, e.length - 1);
+            more[0] = e[0] + cost + (apart == 0 ? 0 : apart == 1 ? 2 : 6);
+            more[1] = d;
+            best = best == null || Arrays.compare(more, best) < 0 ? more : best;
+        }
+        return best;
+    }
+
+    private static void rows() {
+        for (int y : new int[] {0, 5, 11}) {
+            Counted v = largest();
+            List<int[]> ends = new ArrayList<>();
+            for (int d = 0; d <= 7; d++) {
+                ends.add(new int[] {v.cost(0, y, d), d});
+            }
+            for (int x = 1; x < W; x++) {
+                List<int[]> next = new ArrayList<>();
+                for (int d = 0; d <= 7; d++) {
+                    next.add(longer(ends, v.cost(x, y, d), d));
+                }
+                ends = next;
+            }
+            ends.sort(Arrays::compare);
+            int[] best = ends.get(0);
+            due("row(" + y + ", -1)", v.row(y, -1), best[0]);
+            for (int x = 0; x < W; x++) {
+                due("row(" + y + ", " + x + ")", v.row(y, x), best[W - x]);
+            }
+        }
+    }
+
     private static void energy() {
         for (int what = 0; what < 2; what++) {
             int[][] m = what == 0 ? filledMap(0) : shiftMap(LargestTest::largest, 0);
@@ -317,6 +398,9 @@ public final class LargestTest {
         CHECK.sentence(24, "pieces and pieceAt, more than a hundred", () -> pieces(LargestTest::torn, 100));
         CHECK.sentence(26, "ground and votes, 16 by 12", LargestTest::lines);
         CHECK.sentence(29, "between and holes, 16 by 12", LargestTest::between);
+        CHECK.sentence(30, "filled, 16 by 12", () -> filled(LargestTest::largest));
+        CHECK.sentence(30, "filled, where hardly two hang together", () -> filled(LargestTest::torn));
+        CHECK.sentence(32, "row, 16 by 12", LargestTest::rows);
         CHECK.sentence(33, "energy, 16 by 12", LargestTest::energy);
         CHECK.sentence(34, "wrong, 16 by 12", LargestTest::wrong);
         CHECK.end();

@@ -438,6 +438,27 @@ public final class StateBoundsTest {
         due("x - 3 is not there", v.truth(2, 3, 1), 1);
     }
 
+    // 11: at
+
+    /** Eight VALUES in the corners of both views: none lies in another one's PLACE. */
+    private static void corners() {
+        for (int[] size : new int[][] {{3, 3}, {8, 6}, {16, 12}, {16, 3}, {3, 12}}) {
+            Counted v = new Counted();
+            v.size(size[0], size[1]);
+            int right = size[0] - 1;
+            int low = size[1] - 1;
+            int[][] places = {{0, 0}, {right, 0}, {0, low}, {right, low}, {1, 1}};
+            for (int i = 0; i < 10; i++) {
+                due("value", v.value(i / 5, places[i % 5][0], places[i % 5][1], 6 + i), 0);
+            }
+            for (int i = 0; i < 10; i++) {
+                due("at " + i, v.at(i / 5, places[i % 5][0], places[i % 5][1]), 6 + i);
+            }
+            due("beside", v.at(0, 1, 0), 0);
+            due("below", v.at(1, 0, 1), 0);
+        }
+    }
+
     // 35: undo
 
     private static void upToEight() {
@@ -806,6 +827,7 @@ public final class StateBoundsTest {
     }
 
     private static void actsAndImages() {
+        CHECK.sentence(11, "VALUE of a PLACE of a view: the corners", StateBoundsTest::corners);
         CHECK.sentence(35, "the latest 8 can be undone; NONE: none can", StateBoundsTest::upToEight);
         CHECK.sentence(35, "the latest 8, after some are undone", StateBoundsTest::undoAndGoOn);
         CHECK.sentence(35, "value(), size(), text(), draw(), tune()", StateBoundsTest::eachActIsUndone);
