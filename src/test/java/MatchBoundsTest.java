@@ -465,6 +465,62 @@ public final class MatchBoundsTest {
         due("all", Rows.of(v, (x, y) -> v.row(y, x)), "000/000/111");
     }
 
+    /** A picture of 0 to 2 by a row of its own, so that many ways cost the same. */
+    private static Counted mixed(int seed, int w, int most, int[] penalties) {
+        Counted v = new Counted();
+        v.size(w, 3);
+        v.tune(0, most);
+        v.tune(3, 60);
+        v.tune(2, penalties[0]);
+        v.tune(3, penalties[1]);
+        long state = seed * 7919L + 1;
+        for (int i = 0; i < 6 * w; i++) {
+            state = state * 6364136223846793005L + 1442695040888963407L;
+            v.value(i / (3 * w), i % w, i / w % 3, (int) ((state >>> 33) % 3));
+        }
+        return v;
+    }
+
+    /** The ways are gone through from the right end on, the least first: the first of the best counts. */
+    private static void allWaysOfARow() {
+        int[][] penalties = {{0, 0}, {0, 1}, {1, 1}, {1, 2}, {1, 3}, {2, 6}, {3, 4}, {0, 60}, {60, 60}};
+        int[][] sizes = {{3, 7}, {4, 5}, {5, 3}, {6, 2}, {8, 1}};
+        for (int seed = 0; seed < 90; seed++) {
+            int w = sizes[seed % 5][0];
+            int most = sizes[seed % 5][1];
+            int[] steps = penalties[seed % 9];
+            Counted v = mixed(seed, w, most, steps);
+            int[] best = bestOfAllWays(v, w, most, steps);
+            due("picture " + seed + ", what it costs", v.row(1, -1), best[w]);
+            for (int x = 0; x < w; x++) {
+                due("picture " + seed + ", at " + x, v.row(1, x), best[x]);
+            }
+        }
+    }
+
+    /** The SHIFTS, and behind them what they cost. */
+    private static int[] bestOfAllWays(Counted v, int w, int most, int[] steps) {
+        int[][] costs = new int[w][most + 1];
+        int ways = 1;
+        for (int x = 0; x < w; x++) {
+            for (int d = 0; d <= most; d++) {
+                costs[x][d] = v.cost(x, 1, d);
+            }
+            ways *= most + 1;
+        }
+        int[] best = null;
+        for (int way = 0; way < ways; way++) {
+            int[] one = new int[w + 1];
+            for (int x = 0, rest = way; x < w; x++, rest /= most + 1) {
+                one[x] = rest % (most + 1);
+                int apart = x == 0 ? 0 : Math.abs(one[x] - one[x - 1]);
+                one[w] += costs[x][one[x]] + (apart == 0 ? 0 : apart == 1 ? steps[0] : steps[1]);
+            }
+            best = best == null || one[w] < best[w] ? one : best;
+        }
+        return best;
+    }
+
     // 33: energy
 
     private static void energyArguments() {
@@ -531,6 +587,7 @@ public final class MatchBoundsTest {
         CHECK.sentence(32, "what it costs (x NONE); NONE: others", MatchBoundsTest::rowArguments);
         CHECK.sentence(32, "of like ones, from the right end on", MatchBoundsTest::likeRows);
         CHECK.sentence(32, "1 apart A, more apart B", MatchBoundsTest::rowSteps);
+        CHECK.sentence(32, "of all ways to choose a SHIFT for each PLACE", MatchBoundsTest::allWaysOfARow);
         CHECK.sentence(32, "a row by itself, steps for nothing", MatchBoundsTest::rowsByThemselves);
         CHECK.sentence(32, "a SHIFT for each PLACE, the first too", MatchBoundsTest::rowBeyondTheEdge);
         CHECK.sentence(33, "what 0, 1, 2; NONE: others", MatchBoundsTest::energyArguments);
